@@ -14,6 +14,8 @@ public final class AheadTest {
         up();
         pact();
         changesAreSeen();
+        goneActs();
+        fullTown();
         refusals();
         Check.end("AheadTest");
     }
@@ -101,6 +103,11 @@ public final class AheadTest {
         Check.due("harm(2)", x.harm(2), 0);
         Check.due("harm(3)", x.harm(3), 1);
         Check.due("harm(4)", x.harm(4), 1);
+        x = new AwakeByHalves();
+        Check.town(x, "act 1 0 0 1;act 1 1 0 1;likes 0 0 5;likes 1 1 7;hates 1 0 6");
+        // BEST: mark 0 (5), mark 1 (1). TOGETHER: none (0), mark 1 (7)
+        Check.due("gains of 1 by BEST", x.best(2, 1), 1);
+        Check.due("harm with gains of both", x.harm(2), 1);
     }
 
     /** Mark 0, then mark 1, then mark 2, each needing the one ahead; mark 3 fills from 2 of count 0. */
@@ -130,6 +137,10 @@ public final class AheadTest {
         Check.due("half 0 can't", x.work(2, true), -1);
         x.does(-1);
         Check.due("half 1 can", x.work(2, true), 1);
+        x.mark(0, false);
+        Check.due("half 1 makes mark 0 first, half 0 then can't", x.work(2, false), 3);
+        Check.due("half 1 alone", x.work(2, true), 3);
+        Check.due("half 1 alone, three marks", x.work(7, true), -1);
         Check.due("set -1", x.work(-1, false), -2);
         Check.due("set 256", x.work(256, true), -2);
     }
@@ -159,6 +170,9 @@ public final class AheadTest {
         x.lock(1, 3, true);
         Check.due("half 0 alone builds mark 1", x.reach(2), 129);
         Check.due("on day 3", x.reach(3), 128 + 11);
+        x.lock(0, 0, true);
+        x.lock(1, 0, true);
+        Check.due("no mark 0, so no mark 1", x.reach(4), 128 + 8);
         Check.due("reach(5)", x.reach(5), -2);
         Check.due("reach(-1)", x.reach(-1), -2);
         Check.due("nothing is changed", x.status(2), 0);
@@ -199,6 +213,11 @@ public final class AheadTest {
         x.lock(1, 3, true);
         Check.due("for half 1, that can't break it", x.locking(1, 3), 9);
         Check.due("which for half 1", x.which(3), 1);
+        x.lock(0, 1, true);
+        Check.due("LOCKED for the other, which is half 0 now", x.locking(1, 3), -1000005);
+        Check.due("no other is worth it", x.which(3), -1);
+        Check.due("it stays so", x.actOf(1, 6), 1);
+        x.lock(0, 1, false);
         Check.due("FOUND is not known by lock()", x.found(), -5);
         x.does(-1);
         x.locking(0, 2);
@@ -217,6 +236,10 @@ public final class AheadTest {
         Check.town(x, "hates 0 1 4");
         Check.due("the same, mark 1 being worse", x.locking(1, 3), 3);
         Check.due("which", x.which(3), 1);
+        x = new AwakeByHalves();
+        Check.town(x, "act 1 0 0 1;act 3 1 0 1;hates 0 0 1;likes 1 0 1;likes 1 1 1;locks 1 1");
+        Check.due("worth just 1", x.locking(0, 3), 1);
+        Check.due("the first act of all", x.which(3), 0);
     }
 
     private static void up() {
@@ -229,6 +252,10 @@ public final class AheadTest {
         Check.due("nothing is changed", x.status(2) + x.status(3), 0);
         x.lock(0, 0, true);
         Check.due("up(1): nothing more to do", x.up(1), 0);
+        x = fence();
+        x.lock(0, 2, true);
+        x.mark(1, true);
+        Check.due("up(1): count twice", x.up(1), 2);
         AwakeByHalves empty = new AwakeByHalves();
         Check.due("no acts", empty.up(3), 0);
     }
@@ -267,6 +294,67 @@ public final class AheadTest {
         Check.due("a count", x.best(3, 0), 100);
         x.mark(1, true);
         Check.due("a mark", x.best(1, 0), 52);
+    }
+
+    /** An act that was there is gone with back(). */
+    private static void goneActs() {
+        AwakeByHalves x = fence();
+        x.rule(0, 1, 0);
+        x.rule(1, 2, 0);
+        x.image();
+        int[] before = answers(x);
+        x.act(3, 7, 0, 1, 0, 0);
+        x.likes(0, 7, 90);
+        x.likes(1, 7, 80);
+        Check.holds("it matters", answers(x)[0] != before[0]);
+        x.back();
+        int[] behind = answers(x);
+        for (int i = 0; i < before.length; i++) {
+            Check.due("answer " + i, behind[i], before[i]);
+        }
+    }
+
+    private static int[] answers(AwakeByHalves x) {
+        return new int[] {x.best(4, 0), x.best(4, 1), x.together(4), x.against(0, 4), x.reach(4), x.which(4), x.up(3),
+            x.next(0), x.next(1), x.can(0), x.status(4), x.work(128, false), x.run(0, 1, 20, 0)};
+    }
+
+    /** Ten acts, all of them for mark or count by their number: nothing looks behind the last. */
+    private static void fullTown() {
+        AwakeByHalves x = new AwakeByHalves();
+        for (int m = 0; m < 8; m++) {
+            x.act(1, m, 0, 1, 0, 0);
+            x.likes(0, m, m + 1);
+        }
+        x.act(0, 0, 0, 9, 0, 0);
+        x.act(0, 0, 1, 9, 0, 0);
+        x.likes(0, 9, 2);
+        x.rule(0, 1, 0);
+        x.rule(1, 2, 0);
+        x.rule(2, 6, 0);
+        x.row(3, 0, 2);
+        x.set(3, 0, 10);
+        x.set(3, 1, 9);
+        Check.due("OWN", x.next(0), 9);
+        Check.due("KIND", x.next(1), 9);
+        Check.due("LOW", x.next(2), 0);
+        Check.due("can", x.can(0), 1023);
+        Check.due("BEST", x.best(4, 2), 9);
+        // half 1, to which nothing is worth anything, does nothing: 18, then 36
+        Check.due("gains by BEST", x.best(4, 0), 54);
+        Check.due("AGAINST LOW", x.against(2, 3), 18 + 36 + 1);
+        Check.due("TOGETHER", x.together(3), 18 + 46);
+        Check.due("reach", x.reach(1), 255);
+        Check.due("which", x.which(4), -1);
+        Check.due("up", x.up(1), 18);
+        Check.due("told", x.told(3, 2, 2) + x.judge(3, 2), -1);
+        Check.due("run", x.run(0, 2, 3, 0), 18 + 36 + 1);
+        x.lock(1, 9, true);
+        Check.due("locked", x.status(4), 1);
+        x.does(9);
+        Check.due("found", x.found(), 512);
+        Check.due("days", x.status(2), 1);
+        Check.due("counts together, half 1 awake", x.status(3), 9);
     }
 
     private static void refusals() {

@@ -80,6 +80,10 @@ public final class DaysTest {
         Check.due("PACT of 0 from 1 on", says(x, 4, 51), 0);
         Check.due("IDLE of 0, 9", says(x, 5, 9), 0);
         Check.due("IDLE of 0, 10", says(x, 5, 10), -1);
+        x.count(0, 4);
+        Check.due("IDLE of 0, 9, when VALUE is 4 already", says(x, 5, 9), 0);
+        Check.due("IDLE of 0, 10, when VALUE is 4 already", says(x, 5, 10), -1);
+        x.count(0, 0);
         x.does(0);
         Check.due("OWN of 1", says(x, 1, 0), 1);
         Check.due("KIND of 1: 0 by BREAK, -3 by TURN, -5 by ACT", says(x, 2, 0), 1);
@@ -209,7 +213,10 @@ public final class DaysTest {
         // against OWN, KIND lets count 0 grow to 23 unharmed, which in the long run is more than 10 a day
         Check.due("4 days", x.head(5, 4), 1);
         Check.due("60 days", x.head(5, 60), 3);
+        x.rule(0, 1, 3);
+        Check.due("the first shelf of all", x.head(3, 1), 0);
         x.does(0);
+        x.row(0, 0, 4);
         x.rule(1, 6, 0);
         x.rule(2, 2, 0);
         x.mark(0, false);
@@ -261,6 +268,10 @@ public final class DaysTest {
         Check.due("LOCKED for half 1", x.judge(4, 4), 1);
         x = tellingOf(3, 4, 99, 1L << 32, Long.MIN_VALUE, 1);
         Check.due("what is no act is none", x.judge(4, 4), -1);
+        x.act(0, 0, 0, 9, 0, 0);
+        Check.due("4 is one now: 9 on both days", x.told(4, 3, 0), 18);
+        x = tellingOf(3, 4, 99, 1L << 32, Long.MIN_VALUE, 1);
+        Check.due("gains by none", x.told(4, 4, 0), 0);
         Check.due("BREAK of what doesn't stand", x.judge(4, 5), 4);
         x = tellingOf(4, 0, 7, 0, 1);
         Check.due("booleans are 0 and 1", x.judge(4, 4), -1);

@@ -20,6 +20,9 @@ public final class FoundTest {
     }
 
     private static void found() {
+        AwakeByHalves fresh = new AwakeByHalves();
+        Check.due("nothing was done yet", fresh.found(), -5);
+        Check.due("nor is there to say", fresh.say(0, 0), -5);
         AwakeByHalves x = yard();
         Check.due("nothing was done yet", x.found(), -5);
         x.does(0);

@@ -7,6 +7,8 @@ public final class TapeTest {
         spacing();
         allOrNothing();
         faults();
+        endsTooEarly();
+        strangeWords();
         numbers();
         room();
         Check.end("TapeTest");
@@ -137,6 +139,37 @@ public final class TapeTest {
         Check.due("act and lock in one", Check.town(x, "act 0 0 0 1;locks 0 0"), 2);
         x.feed(200);
         Check.due("a byte beyond", x.town(), -20);
+    }
+
+    /** Every statement cut off behind each of its tokens, or with a ; there: the fault is where the rest should be. */
+    private static void endsTooEarly() {
+        String[] whole = {"act 0 0 0 1", "act 0 0 0 1 need 2", "act 0 0 0 1 bar 2", "mark 1", "count 1 2", "likes 0 1 2",
+            "hates 0 1 2", "counts 0 1 2", "costs 0 1 2", "hides 1", "locks 0 0"};
+        for (String text : whole) {
+            AwakeByHalves x = new AwakeByHalves();
+            x.act(0, 0, 0, 1, 0, 0);
+            for (int i = text.indexOf(' '); i >= 0; i = text.indexOf(' ', i + 1)) {
+                String cut = text.substring(0, i);
+                boolean isWhole = cut.equals("act 0 0 0 1");
+                Check.due("\"" + cut + "\"", Check.town(x, cut), isWhole ? 1 : -20 - i);
+                Check.due("\"" + cut + ";mark 1\"", Check.town(x, cut + ";mark 1"), isWhole ? 2 : -20 - i);
+                Check.due("\"" + cut + " x\"", Check.town(x, cut + " x"), -21 - i);
+            }
+            Check.due("\"" + text + "\"", Check.town(x, text), 1);
+            Check.due("\"" + text + " 3\"", Check.town(x, text + " 3"), -21 - text.length());
+        }
+    }
+
+    private static void strangeWords() {
+        AwakeByHalves x = new AwakeByHalves();
+        for (String text : new String[] {"park 1", "mare 1", "ect 0 0 0 1", "likez 0 0 0", "xikes 0 0 0", "counto 0 0 0"}) {
+            Check.due("\"" + text + "\"", Check.town(x, text), -20);
+        }
+        Check.due("a sign behind the digits", Check.town(x, "count 1 :"), -28);
+        Check.due("a sign ahead of the digits", Check.town(x, "count 1 /"), -28);
+        Check.due("a sign behind the letters", Check.town(x, "mark{ 1"), -24);
+        Check.due("a sign ahead of the letters", Check.town(x, "`mark 1"), -20);
+        Check.due("0 of each", Check.town(x, "count 0 0;likes 0 0 0;hates 0 0 0;counts 0 0 0;costs 0 0 0"), 5);
     }
 
     private static void numbers() {
