@@ -12,6 +12,9 @@ public final class AwakeByHalves {
     /** Calls that tell GAINS may answer numbers below 0, so their refusals lie far below any GAIN. */
     private static final int BELOW_GAINS = -1000000;
     private static final int REFUSAL_KINDS = 5;
+    /** Where a search for the most, or the fewest, begins. */
+    private static final int BELOW_ALL = -2000000000;
+    private static final int ABOVE_ALL = 2000000000;
 
     private static final int MARKS = 8;
     private static final int COUNTS = 4;
@@ -57,7 +60,6 @@ public final class AwakeByHalves {
     private final Foresight foresight = new Foresight(town);
     private final Rules rules = new Rules(town, foresight);
     private final Trial trial = new Trial(town, rules);
-    private final Search search = new Search(town, rules);
     private final int[] refusals = new int[REFUSAL_KINDS];
 
     public AwakeByHalves() {
@@ -397,7 +399,8 @@ public final class AwakeByHalves {
         if (lack != 0) {
             return refuseGain(lack);
         }
-        trial.goByRules(shelves[s], shelves[t], n);
+        boolean isFirstAwake = State.awakeIn(town.state) == 0;
+        trial.goByRules(shelves[isFirstAwake ? s : t], shelves[isFirstAwake ? t : s], n);
         switch (what) {
             case 2: return State.marksIn(trial.state);
             case 3: return trial.done;
@@ -415,10 +418,11 @@ public final class AwakeByHalves {
             return refuse(lack);
         }
         int first = NONE;
-        int most = Integer.MIN_VALUE;
+        int most = BELOW_ALL;
         for (int s = 0; s < SHELVES; s++) {
             if (shelves[s].isRule()) {
-                int gains = gainsAwake(shelves[s], shelves[t], n);
+                trial.goByRules(shelves[s], shelves[t], n);
+                int gains = trial.gains[State.awakeIn(town.state)];
                 if (gains > most) {
                     most = gains;
                     first = s;
@@ -426,13 +430,6 @@ public final class AwakeByHalves {
             }
         }
         return first;
-    }
-
-    /** GAINS of the HALF that is awake now in n DAYS, it going by one RULE, the other HALF by the other. */
-    private int gainsAwake(Shelf own, Shelf other, int n) {
-        int awake = State.awakeIn(town.state);
-        trial.goByRules(awake == 0 ? own : other, awake == 0 ? other : own, n);
-        return trial.gains[awake];
     }
 
     public int days(int s, int t, int n) {
@@ -499,14 +496,14 @@ public final class AwakeByHalves {
         if (lack != 0) {
             return refuseGain(lack);
         }
-        return search.mostAgainst(shelves[s], k);
+        return Search.mostAgainst(town, rules, shelves[s], town.state, k);
     }
 
     public int together(int k) {
         if (!isAhead(k)) {
             return refuseGain(BAD);
         }
-        return search.mostOfBoth(k);
+        return Search.mostOfBoth(town, town.state, k);
     }
 
     public int harm(int k) {
@@ -514,15 +511,16 @@ public final class AwakeByHalves {
             return refuseGain(BAD);
         }
         int byBest = foresight.gainOf(0, town.state, k) + foresight.gainOf(1, town.state, k);
-        return search.mostOfBoth(k) - byBest;
+        return Search.mostOfBoth(town, town.state, k) - byBest;
     }
 
     public int work(int set, boolean alone) {
         if (!isWithin(set, 0, ALL_MARKS)) {
             return refuse(BAD);
         }
+        int idle = alone ? 1 - State.awakeIn(town.state) : NONE;
         for (int k = 0; k <= MOST_AHEAD; k++) {
-            if (search.isWorkOf(set, alone, k)) {
+            if (Search.canStand(town, town.state, set, idle, k)) {
                 return k;
             }
         }
@@ -533,7 +531,7 @@ public final class AwakeByHalves {
         if (!isWithin(k, 0, MOST_AHEAD)) {
             return refuse(BAD);
         }
-        return search.marksWithin(k);
+        return Search.marksWithin(town, town.state, k);
     }
 
     public int found() {
@@ -552,10 +550,10 @@ public final class AwakeByHalves {
         }
         int words = Math.min(w, Integer.bitCount(town.hidden));
         int least = NONE;
-        int fewest = Integer.MAX_VALUE;
+        int fewest = ABOVE_ALL;
         for (int set = 0; set <= ALL_MARKS; set++) {
             boolean isTellable = (set & ~town.hidden) == 0 && Integer.bitCount(set) == words;
-            int left = isTellable ? Integer.bitCount(town.likelyActs(town.hidden & ~set)) : Integer.MAX_VALUE;
+            int left = isTellable ? Integer.bitCount(town.likelyActs(town.hidden & ~set)) : ABOVE_ALL;
             if (left < fewest) {
                 fewest = left;
                 least = set;
@@ -623,10 +621,11 @@ public final class AwakeByHalves {
         if (lack != 0) {
             return refuse(lack);
         }
-        boolean isFirstAwake = State.awakeIn(town.state) == 0;
-        Shelf own = isFirstAwake ? shelves[s] : shelves[t];
-        Shelf other = isFirstAwake ? shelves[t] : shelves[s];
-        return search.mostAgainst(other, k) <= gainsAwake(own, other, k) ? 1 : 0;
+        int awake = State.awakeIn(town.state);
+        Shelf own = shelves[awake == 0 ? s : t];
+        Shelf other = shelves[awake == 0 ? t : s];
+        trial.goByRules(own, other, k);
+        return Search.mostAgainst(town, rules, other, town.state, k) <= trial.gains[awake] ? 1 : 0;
     }
 
     // ---- the year
@@ -1008,31 +1007,22 @@ public final class AwakeByHalves {
             while (start < size && letters[start] == BLANK) {
                 start++;
             }
-            end = start + 1;
-            if (start >= size) {
-                sort = END;
-                end = size;
-            } else if (letters[start] == ';') {
-                sort = SIGN;
-            } else if (isFrom(start, 'a', 'z')) {
-                sort = WORD;
-                skipAll('a', 'z');
-            } else if (isFrom(start, '0', '9')) {
-                sort = NUMBER;
-                skipAll('0', '9');
-            } else {
-                sort = STRANGE;
-            }
-        }
-
-        private boolean isFrom(int i, char least, char most) {
-            return letters[i] >= least && letters[i] <= most;
-        }
-
-        private void skipAll(char least, char most) {
-            while (end < size && isFrom(end, least, most)) {
+            sort = start < size ? sortOf(letters[start]) : END;
+            end = start < size ? start + 1 : size;
+            boolean isLong = sort == WORD || sort == NUMBER;
+            while (isLong && end < size && sortOf(letters[end]) == sort) {
                 end++;
             }
+        }
+
+        private static int sortOf(int letter) {
+            if (letter >= 'a' && letter <= 'z') {
+                return WORD;
+            }
+            if (letter >= '0' && letter <= '9') {
+                return NUMBER;
+            }
+            return letter == ';' ? SIGN : STRANGE;
         }
 
         private boolean isWord(String word) {
@@ -1061,10 +1051,6 @@ public final class AwakeByHalves {
             }
             advance();
             return v;
-        }
-
-        private int takeMark() {
-            return takeNumber(0, MARKS - 1);
         }
 
         private boolean readStatement(Town town) {
@@ -1101,7 +1087,7 @@ public final class AwakeByHalves {
             }
             advance();
             int kind = takeNumber(0, DRAIN);
-            int mark = kind == NONE ? NONE : takeMark();
+            int mark = kind == NONE ? NONE : takeNumber(0, MARKS - 1);
             int count = mark == NONE ? NONE : takeNumber(0, COUNTS - 1);
             int n = count == NONE ? NONE : takeNumber(1, MOST_NUMBER);
             int needs = n == NONE ? NONE : takeMarksBehind("need");
@@ -1118,7 +1104,7 @@ public final class AwakeByHalves {
             int set = 0;
             for (int i = 0; i < MOST_TAPE && isWord(word); i++) {
                 advance();
-                int mark = takeMark();
+                int mark = takeNumber(0, MARKS - 1);
                 if (mark == NONE) {
                     return NONE;
                 }
@@ -1129,7 +1115,7 @@ public final class AwakeByHalves {
 
         private boolean readMark(Town town) {
             advance();
-            int mark = takeMark();
+            int mark = takeNumber(0, MARKS - 1);
             if (mark == NONE) {
                 return false;
             }
@@ -1151,7 +1137,7 @@ public final class AwakeByHalves {
         private boolean readMarkWorth(Town town, int sign) {
             advance();
             int half = takeNumber(0, HALVES - 1);
-            int mark = half == NONE ? NONE : takeMark();
+            int mark = half == NONE ? NONE : takeNumber(0, MARKS - 1);
             int v = mark == NONE ? NONE : takeNumber(0, MOST_MARK_WORTH);
             if (v == NONE) {
                 return false;
@@ -1174,7 +1160,7 @@ public final class AwakeByHalves {
 
         private boolean readHidden(Town town) {
             advance();
-            int mark = takeMark();
+            int mark = takeNumber(0, MARKS - 1);
             if (mark == NONE) {
                 return false;
             }
@@ -1238,7 +1224,7 @@ public final class AwakeByHalves {
         /** Where BEST of k DAYS (1 to 4) stands; a key is never 0, as k is not. */
         private int placeOf(int state, int k) {
             int key = (k << State.BITS) | state;
-            int place = (key * SPREAD) >>> (Integer.SIZE - PLACE_BITS);
+            int place = (key * SPREAD) >>> (32 - PLACE_BITS);
             if (keys[place] != key) {
                 workOut(place, state, k);
                 keys[place] = key;
@@ -1249,7 +1235,7 @@ public final class AwakeByHalves {
         private void workOut(int place, int state, int k) {
             int half = State.awakeIn(state);
             int first = NONE;
-            int most = Integer.MIN_VALUE;
+            int most = BELOW_ALL;
             int others = 0;
             for (int act = NONE; act < town.acts; act++) {
                 if (town.allows(act, half, state)) {
@@ -1310,7 +1296,7 @@ public final class AwakeByHalves {
         private int mostToday(int state, boolean forBoth) {
             int half = State.awakeIn(state);
             int first = NONE;
-            int most = Integer.MIN_VALUE;
+            int most = BELOW_ALL;
             for (int act = NONE; act < town.acts; act++) {
                 if (town.allows(act, half, state)) {
                     int after = town.after(act, state);
@@ -1359,10 +1345,12 @@ public final class AwakeByHalves {
             rules = by;
         }
 
-        void goByRules(Shelf ofNone, Shelf ofOne, int n) {
+        /** By the RULE of the HALF that is awake now, and that of the other. */
+        void goByRules(Shelf own, Shelf other, int n) {
             begin();
+            int awake = State.awakeIn(state);
             for (int d = 0; d < n; d++) {
-                go(rules.choose(State.awakeIn(state) == 0 ? ofNone : ofOne, state));
+                go(rules.choose(State.awakeIn(state) == awake ? own : other, state));
             }
         }
 
@@ -1402,22 +1390,10 @@ public final class AwakeByHalves {
 
     /** What can be at all, or be got, by all rows of choices for up to 4 DAYS. */
     private static final class Search {
-        private final Town town;
-        private final Rules rules;
-
-        Search(Town of, Rules by) {
-            town = of;
-            rules = by;
-        }
-
-        int mostAgainst(Shelf rule, int k) {
-            return mostAgainstFrom(town, rules, rule, town.state, k);
-        }
-
-        /** The other's last DAY, if it is the last of all, brings this HALF nothing and isn't looked at. */
-        private static int mostAgainstFrom(Town town, Rules rules, Shelf rule, int state, int k) {
+        /** AGAINST. The other's DAY, if it is the last of all, brings this HALF nothing and isn't looked at. */
+        private static int mostAgainst(Town town, Rules rules, Shelf rule, int state, int k) {
             int half = State.awakeIn(state);
-            int most = Integer.MIN_VALUE;
+            int most = BELOW_ALL;
             for (int act = NONE; act < town.acts; act++) {
                 if (town.allows(act, half, state)) {
                     int after = town.after(act, state);
@@ -1425,7 +1401,7 @@ public final class AwakeByHalves {
                     if (k > 2) {
                         int others = State.nextDay(after);
                         int then = State.nextDay(town.after(rules.choose(rule, others), others));
-                        gains += mostAgainstFrom(town, rules, rule, then, k - 2);
+                        gains += mostAgainst(town, rules, rule, then, k - 2);
                     }
                     most = Math.max(most, gains);
                 }
@@ -1433,29 +1409,21 @@ public final class AwakeByHalves {
             return most;
         }
 
-        int mostOfBoth(int k) {
-            return mostOfBothFrom(town, town.state, k);
-        }
-
-        private static int mostOfBothFrom(Town town, int state, int k) {
+        /** TOGETHER. */
+        private static int mostOfBoth(Town town, int state, int k) {
             int half = State.awakeIn(state);
-            int most = Integer.MIN_VALUE;
+            int most = BELOW_ALL;
             for (int act = NONE; act < town.acts; act++) {
                 if (town.allows(act, half, state)) {
                     int after = town.after(act, state);
-                    int then = k > 1 ? mostOfBothFrom(town, State.nextDay(after), k - 1) : 0;
+                    int then = k > 1 ? mostOfBoth(town, State.nextDay(after), k - 1) : 0;
                     most = Math.max(most, town.valueTo(half, after) + then);
                 }
             }
             return most;
         }
 
-        /** Whether all of a set of MARKS can stand behind k DAYS; alone: the HALF that isn't awake now does nothing. */
-        boolean isWorkOf(int set, boolean alone, int k) {
-            int idle = alone ? 1 - State.awakeIn(town.state) : NONE;
-            return canStand(town, town.state, set, idle, k);
-        }
-
+        /** Whether all of a set of MARKS can stand behind k DAYS, a HALF that is idle (NONE: neither) doing nothing. */
         private static boolean canStand(Town town, int state, int set, int idle, int k) {
             if (k <= 0) {
                 return (state & set) == set;
@@ -1471,12 +1439,8 @@ public final class AwakeByHalves {
             return false;
         }
 
-        int marksWithin(int k) {
-            return marksFrom(town, town.state, k);
-        }
-
         /** Doing nothing is a choice too, so what stands sooner is among what stands behind all k DAYS. */
-        private static int marksFrom(Town town, int state, int k) {
+        private static int marksWithin(Town town, int state, int k) {
             if (k <= 0) {
                 return State.marksIn(state);
             }
@@ -1484,7 +1448,7 @@ public final class AwakeByHalves {
             int set = 0;
             for (int act = NONE; act < town.acts; act++) {
                 if (town.allows(act, half, state)) {
-                    set |= marksFrom(town, State.nextDay(town.after(act, state)), k - 1);
+                    set |= marksWithin(town, State.nextDay(town.after(act, state)), k - 1);
                 }
             }
             return set;
