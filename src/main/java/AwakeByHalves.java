@@ -566,33 +566,36 @@ public final class AwakeByHalves {
         if (!isAct(act) || !isAhead(k)) {
             return refuseGain(BAD);
         }
-        if (town.isLocked(1 - State.awakeIn(town.state), act)) {
+        int awake = State.awakeIn(town.state);
+        if (town.isLocked(1 - awake, act)) {
             return refuseGain(STUCK);
         }
-        return worthOfLocking(act, k);
+        return gainsWithLock(act, k) - foresight.gainOf(awake, town.state, k);
     }
 
-    private int worthOfLocking(int act, int k) {
+    /** GAINS of the HALF that is awake by BEST of k DAYS, an ACT that isn't LOCKED for the other being so meanwhile. */
+    private int gainsWithLock(int act, int k) {
         int awake = State.awakeIn(town.state);
-        int without = foresight.gainOf(awake, town.state, k);
         town.setLocked(1 - awake, act, true);
-        int with = foresight.gainOf(awake, town.state, k);
+        int gains = foresight.gainOf(awake, town.state, k);
         town.setLocked(1 - awake, act, false);
-        return with - without;
+        return gains;
     }
 
     public int which(int k) {
         if (!isAhead(k)) {
             return refuse(BAD);
         }
+        int awake = State.awakeIn(town.state);
         int first = NONE;
-        int most = 0;
+        int most = foresight.gainOf(awake, town.state, k);
         for (int act = 0; act < town.acts; act++) {
-            boolean isLocked = town.isLocked(1 - State.awakeIn(town.state), act);
-            int worth = isLocked ? 0 : worthOfLocking(act, k);
-            if (worth > most) {
-                most = worth;
-                first = act;
+            if (!town.isLocked(1 - awake, act)) {
+                int gains = gainsWithLock(act, k);
+                if (gains > most) {
+                    most = gains;
+                    first = act;
+                }
             }
         }
         return first;
