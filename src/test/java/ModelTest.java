@@ -36,6 +36,8 @@ public final class ModelTest {
     /** Calls that change what there is come less often, so that there is something to be asked. */
     private static final List<String> CHANGES = List.of("row", "rule", "act", "lock", "wipe", "back", "leap", "mark", "count");
 
+    private static final List<String> OF_ACTS = List.of("lock", "actOf", "gain", "does", "locking");
+
     private final Random random;
     private final AwakeByHalves x = new AwakeByHalves();
     private final Model model = new Model();
@@ -151,8 +153,11 @@ public final class ModelTest {
         boolean isWild = random.nextInt(12) == 0;
         for (int i = 0; i < all.length; i++) {
             int v = between(may[2 * i], may[2 * i + 1]);
-            if (m.getName().equals("act") && i > 3) {
-                v = smallSet();
+            if (m.getName().equals("act") && i > 3 || m.getName().equals("work") && i == 0 && random.nextInt(3) > 0) {
+                v = smallSet() | smallSet();
+            }
+            if (may[2 * i + 1] == 9 && OF_ACTS.contains(m.getName()) && random.nextInt(8) > 0) {
+                v = between(may[2 * i], Math.max(0, x.status(0) - 1));
             }
             if (isWild && random.nextInt(2) == 0) {
                 int edge = random.nextInt(3);
