@@ -267,6 +267,9 @@ public final class AheadTest {
         x.rule(2, 2, 0);
         Check.due("OWN against LOW", x.pact(0, 1, 3), 1);
         Check.due("KIND against LOW: 8 of 14", x.pact(2, 1, 3), 0);
+        // OWN has 10; with count 0 first, KIND of half 1 counts too: 2 and 9
+        Check.due("OWN against OWN", x.pact(0, 0, 3), 1);
+        Check.due("OWN against KIND: 10 of 11", x.pact(0, 2, 3), 0);
         Check.due("KIND against LOW, a day", x.pact(2, 1, 1), 0);
         x.does(1);
         // half 1 by LOW leaves mark 1 there

@@ -162,7 +162,7 @@ public final class TapeTest {
 
     private static void strangeWords() {
         AwakeByHalves x = new AwakeByHalves();
-        for (String text : new String[] {"park 1", "mare 1", "ect 0 0 0 1", "likez 0 0 0", "xikes 0 0 0", "counto 0 0 0"}) {
+        for (String text : new String[] {"park 1", "markz 1", "zmark 1", "mare 1", "ect 0 0 0 1", "likez 0 0 0", "xikes 0 0 0", "counto 0 0 0"}) {
             Check.due("\"" + text + "\"", Check.town(x, text), -20);
         }
         Check.due("a sign behind the digits", Check.town(x, "count 1 :"), -28);
