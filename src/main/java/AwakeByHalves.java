@@ -1340,7 +1340,9 @@ public final class AwakeByHalves {
         private final Rules rules;
         final int[] gains = new int[HALVES];
         int state = 0;
+        /** DAYS on which something was done. */
         int done = 0;
+        /** What was chosen on the last DAY, none too. */
         int last = NONE;
 
         Trial(Town of, Rules by) {
@@ -1384,9 +1386,9 @@ public final class AwakeByHalves {
             state = town.after(act, state);
             gains[half] += town.valueTo(half, state);
             state = State.nextDay(state);
+            last = act;
             if (act != NONE) {
                 done++;
-                last = act;
             }
         }
     }

@@ -141,8 +141,8 @@ public final class DaysTest {
         for (int what = 0; what < 5; what++) {
             Check.due("both by OWN, 4 days: " + what, x.run(0, 0, 4, what), quarrelling[what]);
         }
-        // KIND turns mark 1 (7), then OWN keeps it by none (7), then KIND adds 5 and 5
-        int[] kind = {5, 14, 2, 2, 2};
+        // KIND turns mark 1, OWN keeps it by none (7), KIND adds 5 (5), OWN again does none (7)
+        int[] kind = {5, 14, 2, 2, -1};
         for (int what = 0; what < 5; what++) {
             Check.due("0 by KIND, 1 by OWN, 4 days: " + what, x.run(1, 0, 4, what), kind[what]);
         }
@@ -157,14 +157,26 @@ public final class DaysTest {
         Check.due("from half 1 on", x.run(0, 0, 2, 4), 0);
     }
 
-    /** The last ACT that was done, though the day behind it had none. */
+    /** What is chosen on the last day: NONE where that is none, though something was done on a day ahead. */
     private static void lastAct() {
         AwakeByHalves x = new AwakeByHalves();
         Check.town(x, "act 1 0 0 1;likes 0 0 5");
         x.rule(0, 1, 0);
         Check.due("one day", x.run(0, 0, 1, 4), 0);
-        Check.due("three days", x.run(0, 0, 3, 4), 0);
+        Check.due("two days", x.run(0, 0, 2, 4), -1);
+        Check.due("three days", x.run(0, 0, 3, 4), -1);
+        Check.due("60 days", x.run(0, 0, 60, 4), -1);
         Check.due("something was done on", x.run(0, 0, 3, 3), 1);
+        x.rule(1, 6, 0);
+        x.act(0, 0, 0, 1, 0, 0);
+        Check.due("0 by OWN, 1 by LOW, two days", x.run(0, 1, 2, 4), 1);
+        Check.due("0 by OWN, 1 by LOW, three days", x.run(0, 1, 3, 4), -1);
+        Check.due("0 by OWN, 1 by LOW, four days", x.run(0, 1, 4, 4), 1);
+        Check.due("something was done on", x.run(0, 1, 4, 3), 3);
+        Check.due("no day behind one with an act", x.run(0, 1, 0, 4), -1);
+        x.does(-1);
+        Check.due("from half 1 on, by LOW", x.run(0, 1, 1, 4), 0);
+        Check.due("from half 1 on, by LOW and OWN", x.run(0, 1, 2, 4), -1);
     }
 
     private static void refusedRuns() {

@@ -578,7 +578,7 @@ final class Model {
         return r(s).says(all, all.w);
     }
 
-    /** {gains of 0, gains of 1, marks, days with something done, last act} */
+    /** {gains of 0, gains of 1, marks, days with something done, what is chosen on the last day} */
     private int[] ran(Rule zero, Rule one, int n) {
         All x = all.twin();
         x.gained = new long[2];
@@ -586,10 +586,8 @@ final class Model {
         int last = NONE;
         for (int d = 0; d < n; d++) {
             int act = (x.w.awake() == 0 ? zero : one).says(x, x.w);
-            if (act != NONE) {
-                done++;
-                last = act;
-            }
+            if (act != NONE) done++;
+            if (d == n - 1) last = act;
             x.live(act);
         }
         return new int[] {(int) x.gained[0], (int) x.gained[1], x.w.bits(), done, last};
