@@ -66,7 +66,7 @@ public final class AnyArgumentsTest {
     }
 
     /** All that can be asked without a refusal. */
-    private static String all(AwakeByHalves x) {
+    static String all(AwakeByHalves x) {
         StringBuilder b = new StringBuilder();
         for (int what = 0; what < 8; what++) {
             b.append(x.status(what)).append(' ');

@@ -2,6 +2,7 @@
 final class Check {
     private static int wrong = 0;
     private static int made = 0;
+    private static String about = "";
 
     private Check() { }
 
@@ -9,8 +10,17 @@ final class Check {
         made++;
         if (got != want) {
             wrong++;
-            System.out.println(call + " answered " + got + ", due is " + want);
+            System.out.println(about + call + " answered " + got + ", due is " + want);
         }
+    }
+
+    /** What all answers from here on are told to be about, if they are wrong. */
+    static void about(String what) {
+        about = what.isEmpty() ? "" : "[" + what + "] ";
+    }
+
+    static int made() {
+        return made;
     }
 
     static void holds(String what, boolean is) {
