@@ -269,6 +269,8 @@ public final class Promises15To31Test {
         Check.due("HALF 1 by LOW on the last of 60 DAYS", x.run(0, 1, 60, 4), 0);
         Check.due("HALF 0 by LOW, not on the last", x.run(1, 0, 60, 4), -1);
         Check.due("both by LOW", x.run(1, 1, 60, 3), 60);
+        Check.due("no DAY behind these", x.run(1, 1, 0, 3), 0);
+        Check.due("no ACT behind these", x.run(1, 1, 0, 4), -1);
         x = of("act 3 0 0 1;act 3 7 0 1;mark 3;locks 0 1;locks 1 0");
         x.rule(6, 6, 0);
         x.rule(7, 1, 0);

@@ -280,6 +280,14 @@ public final class Promises32To48Test {
             + "locks 0 0;locks 0 1;locks 0 2");
     }
 
+    /** The same with HALF 0 and HALF 1 the other way about, HALF 1 being awake. */
+    private static AwakeByHalves plotOfHalf0() {
+        AwakeByHalves x = of("act 2 6 0 1;act 5 6 0 3;act 1 2 0 1 bar 6;mark 6;likes 1 6 9;counts 1 0 1;likes 0 2 10;"
+            + "locks 1 0;locks 1 1;locks 1 2");
+        x.does(-1);
+        return x;
+    }
+
     private static void locking() {
         Doc.says("LOCKING an ACT over k DAYS.");
         AwakeByHalves x = plot();
@@ -290,6 +298,11 @@ public final class Promises32To48Test {
                 Check.due("ACT " + a + " over " + k, x.locking(a, k), 0);
             }
             Check.due("it isn't LOCKED for HALF 1 by that", x.actOf(a, 6), 1);
+        }
+        x = plotOfHalf0();
+        for (int a = 0; a < 3; a++) {
+            Check.due("ACT " + a + " to HALF 1", x.locking(a, 4), worth[a]);
+            Check.due("it isn't LOCKED for HALF 0 by that", x.actOf(a, 6), 2);
         }
         x = of("act 1 0 0 1;likes 0 0 5;likes 1 0 5;locks 0 0");
         Check.due("below 0", x.locking(0, 3), -5);
@@ -325,6 +338,11 @@ public final class Promises32To48Test {
         Check.due("what is LOCKED already is passed over: nothing is left to fear", x.which(4), -1);
         Check.due("nothing is LOCKED by it", x.status(4), 3);
         Check.due("MAKE is LOCKED for HALF 0 alone", x.actOf(2, 6), 1);
+        x = plotOfHalf0();
+        Check.due("to HALF 1", x.which(4), 2);
+        x.lock(0, 1, true);
+        Check.due("to HALF 1, the first of two", x.which(4), 0);
+        Check.due("what is LOCKED for HALF 0 stays so", x.actOf(1, 6), 3);
         x = of("act 1 0 0 1;likes 0 0 5;likes 1 0 5;locks 0 0");
         Check.due("below 0", x.which(3), -1);
         Check.due("no ACTS", new AwakeByHalves().which(4), -1);

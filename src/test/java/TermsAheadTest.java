@@ -64,6 +64,35 @@ public final class TermsAheadTest {
         isBest(x, 1, -1, 0, -6);
         isBest(x, 4, -1, 12, -12);
         isBest(new AwakeByHalves(), 4, -1, 0, 0);
+        bestFromNow();
+    }
+
+    /** What was asked once is no answer when something has changed since. */
+    private static void bestFromNow() {
+        AwakeByHalves x = of("act 1 0 0 1;likes 0 0 6");
+        isBest(x, 3, 0, 12, 0);
+        x.likes(0, 0, 7);
+        isBest(x, 3, 0, 14, 0);
+        x.lock(0, 0, true);
+        isBest(x, 3, -1, 0, 0);
+        x.image();
+        x.act(3, 0, 0, 1, 0, 0);
+        isBest(x, 3, 1, 14, 0);
+        Check.town(x, "likes 0 0 8");
+        isBest(x, 3, 1, 16, 0);
+        x.mark(0, true);
+        isBest(x, 3, -1, 16, 0);
+        x.count(0, 2);
+        x.likes(0, 8, 1);
+        isBest(x, 3, -1, 20, 0);
+        x.does(-1);
+        isBest(x, 3, -1, 10, 0);
+        x.seed(1);
+        x.likes(0, 6, 9);
+        x.leap();
+        isBest(x, 3, -1, 19, 0);
+        x.back();
+        isBest(x, 3, -1, 0, 0);
     }
 
     private static void against() {
@@ -133,6 +162,9 @@ public final class TermsAheadTest {
         Check.due("with the other", x.work(1, false), 2);
         x.does(-1);
         Check.due("HALF 1 can", x.work(1, true), 1);
+        Check.due("HALF 1 alone, two", x.work(3, true), 3);
+        Check.due("HALF 1 with the other, two", x.work(3, false), 2);
+        Check.due("HALF 1 alone, three", x.work(7, true), -1);
     }
 
     private static void found() {

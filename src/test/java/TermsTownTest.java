@@ -103,6 +103,45 @@ public final class TermsTownTest {
         Check.due("an 11th", x.act(0, 0, 0, 1, 0, 0), -6);
         Check.due("there are ten", x.status(0), 10);
         Check.due("no ACT 10", x.actOf(10, 0), -2);
+        theTenth();
+    }
+
+    /** Ten ACTS, of which the last is the best by far to both: it is looked at, and nothing behind it. */
+    private static void theTenth() {
+        AwakeByHalves x = new AwakeByHalves();
+        for (int a = 0; a < 10; a++) {
+            x.act(a < 8 ? 1 : 0, a % 8, a / 9, a < 9 ? 1 : 9, 0, 0);
+        }
+        for (int what = 9; what < 12; what++) {
+            x.likes(0, what, 9);
+            x.likes(1, what, 9);
+        }
+        x.row(7, 0, 2);
+        x.set(7, 0, 10);
+        x.set(7, 1, 9);
+        for (int kind = 1; kind <= 5; kind++) {
+            x.rule(kind, kind, 50);
+            Check.due("a RULE of KIND " + kind, x.next(kind), 9);
+        }
+        Check.due("ACTS that CAN be", x.can(0), 1023);
+        for (int k = 1; k <= 4; k++) {
+            // COUNT 1 is 9, 18, then 23, and 9 of it are 81
+            int[] all = {81, 81 + 162, 81 + 162 + 207, 81 + 162 + 207 + 207};
+            Check.due("the first of BEST", x.best(k, 2), 9);
+            Check.due("TOGETHER", x.together(k), all[k - 1]);
+            Check.due("AGAINST OWN", x.against(1, k), k < 3 ? 81 : 81 + 207);
+            Check.due("harm", x.harm(k), 0);
+            Check.due("which LOCK", x.which(k), -1);
+            Check.due("LOCKING the tenth", x.locking(9, k), k < 3 ? 0 : 162 - 207);
+            Check.due("reach", x.reach(k), 255);
+        }
+        Check.due("STAYING UP", x.up(1), 81);
+        Check.due("WORK of five MARKS", x.work(31, false), -1);
+        Check.due("told 10, which is none, and 9", x.told(7, 2, 0) + x.told(7, 2, 1), 81);
+        x.lock(1, 9, true);
+        Check.due("LOCKED", x.status(4), 1);
+        x.does(9);
+        Check.due("FOUND", x.found(), 512);
     }
 
     private static void isPart(int[] act, int number) {
@@ -200,6 +239,13 @@ public final class TermsTownTest {
         Check.due("no ;", Check.town(x, "mark 1 mark 2"), -27);
         Check.due("a WORD that begins none", Check.town(x, "need 1"), -20);
         Check.due("a NUMBER begins none", Check.town(x, "1"), -20);
+        for (String word : new String[] {"act", "mark", "count", "likes", "hates", "counts", "costs", "hides", "locks"}) {
+            Check.due("another first letter", Check.town(x, "x" + word.substring(1) + " 0 0 0 1"), -20);
+            Check.due("another last letter", Check.town(x, word.substring(0, word.length() - 1) + "x 0 0 0 1"), -20);
+            Check.due("one letter more", Check.town(x, word + "x 0 0 0 1"), -20);
+            Check.due("one letter ahead", Check.town(x, "x" + word + " 0 0 0 1"), -20);
+        }
+        Check.due("nothing came of these", x.status(0), 0);
     }
 
     private static void actStatement() {
@@ -223,6 +269,9 @@ public final class TermsTownTest {
             Check.due(wrong[i], Check.town(x, wrong[i]), -20 - at[i]);
         }
         Check.due("no more ACTS came", x.status(0), 4);
+        for (String word : new String[] {"xeed", "neex", "nee", "needs", "xar", "bax", "ba", "bars"}) {
+            Check.due(word, Check.town(x, "act 0 0 0 1 " + word + " 1"), -32);
+        }
     }
 
     private static void markStatement() {
@@ -367,7 +416,11 @@ public final class TermsTownTest {
         }
         Check.due("a 10th and an 11th", Check.town(x, "act 0 0 0 1; act 0 0 0 1"), -20 - 13);
         Check.due("neither came", x.status(0), 9);
-        Check.due("a 10th", Check.town(x, "act 0 0 0 1"), 1);
+        Check.due("a 10th", Check.town(x, "act 5 7 3 9 need 1 bar 2;locks 1 9"), 2);
+        int[] tenth = {5, 7, 3, 9, 2, 4, 2};
+        for (int what = 0; what < 7; what++) {
+            Check.due("actOf(9, " + what + ")", x.actOf(9, what), tenth[what]);
+        }
         Check.due("an 11th", Check.town(x, "act 0 0 0 1"), -20);
         Check.due("its word, though a NUMBER behind it may not be", Check.town(x, "mark 1;act 9"), -27);
         Check.due("its word, though the TAPE ends behind it", Check.town(x, "act"), -20);
@@ -396,5 +449,24 @@ public final class TermsTownTest {
         Check.due("all of it blank", Check.town(x, " ".repeat(250)), -270);
         Check.due("a whole TAPE", Check.town(x, " ".repeat(246) + "mark"), -270);
         Check.due("each is refused", x.status(12), 8);
+        cutOff();
+    }
+
+    /** Every STATEMENT cut off behind each of its TOKENS: at the TAPE's end, and by a ; that can't stand there. */
+    private static void cutOff() {
+        String[] whole = {"act 0 0 0 1", "act 0 0 0 1 need 2", "act 0 0 0 1 bar 2", "mark 1", "count 1 2", "likes 0 1 2",
+            "hates 0 1 2", "counts 0 1 2", "costs 0 1 2", "hides 1", "locks 0 0"};
+        for (String text : whole) {
+            AwakeByHalves x = new AwakeByHalves();
+            x.act(0, 0, 0, 1, 0, 0);
+            for (int i = text.indexOf(' '); i >= 0; i = text.indexOf(' ', i + 1)) {
+                String cut = text.substring(0, i);
+                if (!cut.equals("act 0 0 0 1")) {
+                    Check.due("\"" + cut + "\"", Check.town(x, cut), -20 - i);
+                    Check.due("\"" + cut + ";mark 1\"", Check.town(x, cut + ";mark 1"), -20 - i);
+                }
+            }
+            Check.due("\"" + text + "\"", Check.town(x, text), 1);
+        }
     }
 }
