@@ -1,9 +1,14 @@
+import java.lang.reflect.Field;
+import java.lang.reflect.Modifier;
 import java.nio.file.Files;
 import java.nio.file.Path;
 import java.util.ArrayList;
 import java.util.Arrays;
+import java.util.HashSet;
 import java.util.List;
+import java.util.Map;
 import java.util.Set;
+import java.util.TreeMap;
 import java.util.regex.Matcher;
 import java.util.regex.Pattern;
 
@@ -20,6 +25,8 @@ public final class LanguageTest {
         library(code);
         statics(code);
         methods(code);
+        depths(bodies(code));
+        fields();
         Check.end("LanguageTest");
     }
 
@@ -92,5 +99,83 @@ public final class LanguageTest {
             Check.holds("1: no method of ours is called " + other, !faces.contains(other));
         }
         Check.holds("methods were found", others.size() > 40);
+    }
+
+    /** What stands in each method; methods of one name count as one, which makes chains longer, never shorter. */
+    private static Map<String, String> bodies(String code) {
+        Map<String, String> all = new TreeMap<>();
+        Matcher m = METHOD.matcher(code);
+        while (m.find()) {
+            if (!Set.of("if", "for", "while", "switch").contains(m.group(4))) {
+                int end = code.indexOf("\n" + m.group(1) + "}", m.end());
+                all.merge(m.group(4), code.substring(m.end(), end), String::concat);
+            }
+        }
+        return all;
+    }
+
+    private static void depths(Map<String, String> bodies) {
+        Map<String, Set<String>> calls = new TreeMap<>();
+        for (String name : bodies.keySet()) {
+            Set<String> called = new HashSet<>();
+            Matcher m = Pattern.compile("(?<!new )\\b(\\w+)\\(").matcher(bodies.get(name));
+            while (m.find()) {
+                if (bodies.containsKey(m.group(1))) {
+                    called.add(m.group(1));
+                }
+            }
+            calls.put(name, called);
+        }
+        int deepest = 0;
+        for (String name : calls.keySet()) {
+            int depth = deepest(name, calls, new HashSet<>());
+            deepest = Math.max(deepest, depth);
+            Check.holds("11: calls from " + name + " go " + depth + " deep", depth <= 8);
+        }
+        Check.holds("chains of calls were found", deepest > 4);
+        Set<String> again = new HashSet<>();
+        for (String name : calls.keySet()) {
+            if (callsItself(name, name, calls, new HashSet<>())) {
+                again.add(name);
+            }
+        }
+        Set<String> known = Set.of("placeOf", "workOut", "mostAgainst", "mostOfBoth", "canStand", "marksWithin");
+        Check.holds("8: methods that come to call themselves, each with a bound: " + again, known.equals(again));
+    }
+
+    /** How many methods stand open at most, a method that stands open already not being counted again. */
+    private static int deepest(String name, Map<String, Set<String>> calls, Set<String> open) {
+        open.add(name);
+        int most = 0;
+        for (String called : calls.get(name)) {
+            if (!open.contains(called)) {
+                most = Math.max(most, deepest(called, calls, open));
+            }
+        }
+        open.remove(name);
+        return 1 + most;
+    }
+
+    private static boolean callsItself(String first, String at, Map<String, Set<String>> calls, Set<String> seen) {
+        for (String called : calls.get(at)) {
+            if (called.equals(first) || seen.add(called) && callsItself(first, called, calls, seen)) {
+                return true;
+            }
+        }
+        return false;
+    }
+
+    private static void fields() {
+        List<Class<?>> classes = new ArrayList<>(Arrays.asList(AwakeByHalves.class.getDeclaredClasses()));
+        classes.add(AwakeByHalves.class);
+        for (Class<?> c : classes) {
+            int own = 0;
+            for (Field f : c.getDeclaredFields()) {
+                own += Modifier.isStatic(f.getModifiers()) ? 0 : 1;
+                boolean isPlain = f.getType().isPrimitive() || f.getType() == String.class || f.getType() == int[].class;
+                Check.holds("5: " + f, !Modifier.isStatic(f.getModifiers()) || Modifier.isFinal(f.getModifiers()) && isPlain);
+            }
+            Check.holds("11: " + c.getName() + " has " + own + " fields", own <= 20);
+        }
     }
 }
